@@ -9,6 +9,8 @@ public final class MarkTest {
         backFromBurst();
         backToNothing();
         marksStay();
+        otherWitnesses();
+        otherRings();
         DUE.finish();
     }
 
@@ -156,5 +158,45 @@ public final class MarkTest {
         DUE.due("made anew", x.mark(0), 6);
         x.back(1);
         DUE.due("back to the newer", x.back(0), 6);
+    }
+
+    private static void otherWitnesses() {
+        TreacleTank x = new TreacleTank();
+        x.hours(9);
+        x.mark(0);
+        x.witness(1, 1, 1);
+        x.witness(1, 2, 0);
+        x.mark(1);
+        x.back(0);
+        x.witness(9, 3, 0);
+        x.witness(8, 4, 2);
+        x.back(1);
+        DUE.due("asked, said and read as then", x.lean(1, 0, 0, 5, 0), 1);
+        DUE.due("below the line", x.lean(1, 0, 0, 5, 1), 1);
+        DUE.due("nobody asked later", x.lean(3, 1, 5, 9, 1), 0);
+    }
+
+    private static void otherRings() {
+        TreacleTank x = new TreacleTank();
+        x.begin(1, 10, 0, 0, 1);
+        x.ring(5, 30, 40, 10, 20, 2, 900, 3);
+        x.ring(6, 31, 41, 11, -50, 1, 901, 4);
+        x.hours(2);
+        x.mark(0);
+        int[] before = rings(x);
+        x.begin(2, 9, 5, 1, 2);
+        x.ring(7, 8, 9, 10, 11, 0, 13, 14);
+        x.ring(8, 9, 10, 11, 12, 3, 14, 15);
+        x.pour(9, 1);
+        DUE.due("the other one burst", x.count(8), 2);
+        DUE.due("rings are otherwise", java.util.Arrays.equals(before, rings(x)), false);
+        x.back(0);
+        DUE.due("rings are as they were", java.util.Arrays.equals(before, rings(x)), true);
+        DUE.due("no hour of a burst", x.count(8), -1);
+    }
+
+    private static int[] rings(TreacleTank x) {
+        return new int[] {x.told(0, 1), x.told(0, 3), x.told(1, 1), x.told(1, 3), x.needed(1, 11), x.trial(11, 9),
+            x.more(), x.thicker(0), x.thicker(1), x.pour(11, 50), x.told(0, 1), x.told(1, 0)};
     }
 }

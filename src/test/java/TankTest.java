@@ -493,5 +493,10 @@ public final class TankTest {
         z.ring(5, 1, 1, 1, -50, 5, 9, 1);
         z.ring(5, 1, 1, 1, -50, 5, 9, 1);
         DUE.due("both alike: the lowest", z.nearest(), 1);
+        TreacleTank v = tank(1, 1, 0, 0, 199);
+        v.ring(1, 1, 1, 4, -50, 0, 9, 1);
+        v.ring(1, 1, 1, 1, -50, 0, 9, 1);
+        v.pour(2, 10);
+        DUE.due("2 by 4, 1 by 1", v.nearest(), 1);
     }
 }

@@ -125,6 +125,10 @@ public final class TextTest {
         bad("when 1=1 nor 1=1", 9, 0);
         bad("when 1=1and1=1or2", 17, 0);
         bad("when hours=1", 5, 0);
+        bad("when hourz=1", 5, 0);
+        bad("when ahour=1", 5, 0);
+        bad("trace @ 1", 6, 0);
+        bad("when 1<", 7, 0);
         bad("when hour1=1", 9, 0);
         bad("when 1hour=1", 6, 0);
         bad("when not", 8, 0);
