@@ -87,7 +87,8 @@ public final class FaceTest {
     private static void source() throws IOException {
         String source = Files.readString(Path.of("src/main/java/TreacleTank.java"), StandardCharsets.ISO_8859_1);
         DUE.due("signs 1 to 127", source.chars().allMatch(sign -> sign > 0 && sign < 128), true);
-        String code = source.replaceAll("(?s)/\\*.*?\\*/", "").replaceAll("//[^\n]*", "").replaceAll("\"[^\"]*\"", "\"\"");
+        String code = source.replaceAll("(?s)/\\*.*?\\*/", "").replaceAll("//[^\n]*", "")
+                .replaceAll("\"[^\"]*\"", "\"\"");
         Matcher banned = Pattern.compile("\\b(throw|throws|try|catch|finally|synchronized|assert|import|package|"
                 + "double|float|Object|Exact)\\b|->|::|\\w+Exact\\(").matcher(code);
         while (banned.find()) {

@@ -169,6 +169,7 @@ final class MarkEdges extends Edges {
         });
         Used x = unburst.get();
         x.mark(0);
+        x.hours(6);
         x.begin(1, 99, 0, 0, 1);
         x.ring(5, 9, 1, 1, -50, 0, 9999, 1);
         x.pour(5, 10);
@@ -178,6 +179,7 @@ final class MarkEdges extends Edges {
         due("a ring comes", Scenes.strongRing(x, 1), 1);
         x.back(1);
         due("burst again", x.count(7), 0);
+        due("in the hour of then", x.count(8), 6);
         due("by the load of then", x.told(0, 5), 495);
         due("nothing is drawn off", x.draw(1), -1);
     }

@@ -15,7 +15,7 @@ public final class MarkTest {
     }
 
     private static void edges() {
-        TreacleTank x = new TreacleTank();
+        Used x = new Used();
         x.hours(7);
         DUE.due("mark -1", x.mark(-1), -1);
         DUE.due("mark 4", x.mark(4), -1);
@@ -29,8 +29,8 @@ public final class MarkTest {
     }
 
     private static void allGoesBack() {
-        TreacleTank x = new TreacleTank();
-        Due.rule(x, "must 2 every 5");
+        Used x = new Used();
+        x.rule("must 2 every 5");
         x.begin(10, 5, 3, 0, 1);
         x.ring(5, 30, 40, 50, -50, 0, 9999, 3);
         x.ring(6, 31, 41, 50, -50, 0, 9999, 3);
@@ -72,7 +72,7 @@ public final class MarkTest {
         DUE.due("all as it was, by another tank", sum(x), before);
     }
 
-    private static long sum(TreacleTank x) {
+    private static long sum(Used x) {
         long sum = 0;
         for (int what = 0; what < 12; what++) {
             sum = sum * 31 + x.count(what);
@@ -88,9 +88,9 @@ public final class MarkTest {
             sum = sum * 31 + x.layer(layer, 0);
             sum = sum * 31 + x.layer(layer, 1);
         }
-        for (int n = 0; n < 60; n++) {
+        for (int n = 0; n < 12; n++) {
             for (int what = 0; what < 4; what++) {
-                sum = sum * 31 + x.place(n % 12, n / 12, what);
+                sum = sum * 31 + x.place(n, n * 5 % 12, what);
             }
         }
         sum = sum * 31 + x.lean(2, 0, 0, 99, 0);
@@ -101,10 +101,10 @@ public final class MarkTest {
     }
 
     private static void textsStay() {
-        TreacleTank x = new TreacleTank();
+        Used x = new Used();
         x.mark(0);
-        Due.story(x, "prior 3");
-        Due.rule(x, "must 1 every 1");
+        x.story("prior 3");
+        x.rule("must 1 every 1");
         x.feed(1, 2, 3, 4, 5);
         x.back(0);
         DUE.due("stories", x.count(9), 1);
@@ -113,7 +113,7 @@ public final class MarkTest {
     }
 
     private static void backFromBurst() {
-        TreacleTank x = new TreacleTank();
+        Used x = new Used();
         x.begin(1, 10, 0, 0, 1);
         x.ring(5, 30, 1, 10, -50, 0, 9999, 3);
         x.pour(1, 0);
@@ -133,7 +133,7 @@ public final class MarkTest {
     }
 
     private static void backToNothing() {
-        TreacleTank x = new TreacleTank();
+        Used x = new Used();
         x.mark(0);
         x.begin(1, 10, 0, 0, 1);
         x.ring(5, 30, 1, 10, -50, 0, 9999, 3);
@@ -146,7 +146,7 @@ public final class MarkTest {
     }
 
     private static void marksStay() {
-        TreacleTank x = new TreacleTank();
+        Used x = new Used();
         x.mark(0);
         x.hours(5);
         x.mark(1);
@@ -161,7 +161,7 @@ public final class MarkTest {
     }
 
     private static void otherWitnesses() {
-        TreacleTank x = new TreacleTank();
+        Used x = new Used();
         x.hours(9);
         x.mark(0);
         x.witness(1, 1, 1);
@@ -177,7 +177,7 @@ public final class MarkTest {
     }
 
     private static void otherRings() {
-        TreacleTank x = new TreacleTank();
+        Used x = new Used();
         x.begin(1, 10, 0, 0, 1);
         x.ring(5, 30, 40, 10, 20, 2, 900, 3);
         x.ring(6, 31, 41, 11, -50, 1, 901, 4);
@@ -195,7 +195,7 @@ public final class MarkTest {
         DUE.due("no hour of a burst", x.count(8), -1);
     }
 
-    private static int[] rings(TreacleTank x) {
+    private static int[] rings(Used x) {
         return new int[] {x.told(0, 1), x.told(0, 3), x.told(1, 1), x.told(1, 3), x.needed(1, 11), x.trial(11, 9),
             x.more(), x.thicker(0), x.thicker(1), x.pour(11, 50), x.told(0, 1), x.told(1, 0)};
     }

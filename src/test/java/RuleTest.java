@@ -11,7 +11,7 @@ public final class RuleTest {
     }
 
     private static void looks() {
-        TreacleTank x = new TreacleTank();
+        Used x = new Used();
         x.hours(10);
         DUE.due("man -1", x.look(-1, 0), false);
         DUE.due("man 10", x.look(10, 0), false);
@@ -23,8 +23,8 @@ public final class RuleTest {
     }
 
     private static void owedByTime() {
-        TreacleTank x = new TreacleTank();
-        Due.rule(x, "must 0 every 3;must 9 every 1");
+        Used x = new Used();
+        x.rule("must 0 every 3;must 9 every 1");
         DUE.due("no ring", x.owed(), 0);
         x.begin(1, 1, 0, 0, 1);
         DUE.due("no ring yet", x.owed(), 0);
@@ -46,9 +46,9 @@ public final class RuleTest {
     }
 
     private static void owedByTest() {
-        TreacleTank x = new TreacleTank();
-        Due.rule(x, "must 4 every 1 if ring=1 and built<10");
-        Due.rule(x, "must 5 every 1 if burst=1");
+        Used x = new Used();
+        x.rule("must 4 every 1 if ring=1 and built<10");
+        x.rule("must 5 every 1 if burst=1");
         x.begin(1, 1, 0, 0, 1);
         x.ring(1, 1, 5, 1, 0, 0, 100, 1);
         DUE.due("of no ring", x.owed(), 0);
@@ -62,10 +62,10 @@ public final class RuleTest {
     }
 
     private static void severalClauses() {
-        TreacleTank x = new TreacleTank();
+        Used x = new Used();
         x.begin(1, 1, 0, 0, 1);
         x.ring(1, 1, 5, 1, 0, 0, 100, 1);
-        Due.rule(x, "must 1 every 9;must 1 every 5 if air<5;must 2 every 9999");
+        x.rule("must 1 every 9;must 1 every 5 if air<5;must 2 every 9999");
         x.look(1, 0);
         x.look(2, 0);
         x.hours(6);

@@ -6,7 +6,8 @@ import java.util.TreeMap;
 /** All promises: runs of calls by chance (the same ones each time), beside the plain tank. */
 public final class SideBySideTest {
     private static final int RUNS = 1500;
-    private static final int CALLS = 512;
+    /** The longest one: an end, twenty feeds, an end and the call that reads it. */
+    private static final int CALLS_OF_A_TEXT = 23;
     private static final int[] ODD = {-1, 0, 1, -2, -1000, 100000, Integer.MAX_VALUE, Integer.MIN_VALUE};
 
     /** Of each call what its arguments may be, low and high by turns, and how often it is made. */
@@ -59,7 +60,8 @@ public final class SideBySideTest {
         texts = new Texts(random);
         for (Method method : TreacleTank.class.getDeclaredMethods()) {
             if (java.lang.reflect.Modifier.isPublic(method.getModifiers())) {
-                methods.put(method.getName(), method);
+                methods.put(method.getName(),
+                        Used.class.getDeclaredMethod(method.getName(), method.getParameterTypes()));
                 plainMethods.put(method.getName(),
                         PlainTank.class.getMethod(method.getName(), method.getParameterTypes()));
             }
@@ -77,18 +79,17 @@ public final class SideBySideTest {
     }
 
     private boolean run(int run) throws ReflectiveOperationException {
-        TreacleTank x = new TreacleTank();
+        Used x = new Used();
         PlainTank plain = new PlainTank();
         StringBuilder told = new StringBuilder();
         int all = 0;
         for (Object[] row : CALLS_BY_NAME) {
             all += (Integer) row[1];
         }
-        int calls = 0;
-        while (calls < CALLS) {
-            if (random.nextInt(12) == 0) {
+        while (x.left() > 0) {
+            if (random.nextInt(12) == 0 && x.left() >= CALLS_OF_A_TEXT) {
                 boolean asRule = random.nextInt(3) == 0;
-                calls += tell(x, plain, asRule, told);
+                tell(x, plain, asRule, told);
                 if (!same(x, plain, told, asRule ? "rule" : "story")) {
                     return wrong(run, told);
                 }
@@ -100,7 +101,6 @@ public final class SideBySideTest {
                 pick -= (Integer) CALLS_BY_NAME[n][1];
                 n++;
             }
-            calls++;
             if (!same(x, plain, told, (String) CALLS_BY_NAME[n][0], arguments(CALLS_BY_NAME[n]))) {
                 return wrong(run, told);
             }
@@ -113,12 +113,11 @@ public final class SideBySideTest {
         return false;
     }
 
-    private int tell(TreacleTank x, PlainTank plain, boolean asRule, StringBuilder told) {
+    private void tell(Used x, PlainTank plain, boolean asRule, StringBuilder told) {
         String text = asRule ? texts.rule() : texts.story();
         told.append("text \"").append(text).append("\"\n");
-        Due.tape(x, text);
+        x.tape(text);
         plain.tape = text;
-        return text.length() / 20 + 4;
     }
 
     private Object[] arguments(Object[] row) {
@@ -142,7 +141,7 @@ public final class SideBySideTest {
         return arguments;
     }
 
-    private boolean same(TreacleTank x, PlainTank plain, StringBuilder told, String name, Object... arguments)
+    private boolean same(Used x, PlainTank plain, StringBuilder told, String name, Object... arguments)
             throws ReflectiveOperationException {
         Object got = methods.get(name).invoke(x, arguments);
         Object want = plainMethods.get(name).invoke(plain, arguments);

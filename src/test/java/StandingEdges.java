@@ -145,8 +145,8 @@ final class StandingEdges extends Edges {
     }
 
     void p24FewestFeet() {
-        says("the fewest feet of that by which its LOAD is not less than with all RINGS full of the liquid, without GAS;",
-                "NEEDED: feet;");
+        says("the fewest feet of that by which its LOAD is not less than with all RINGS full of the liquid,"
+                + " without GAS;", "NEEDED: feet;");
         Used x = tank();
         // full: 45 and 20
         due("just as heavy: all", x.needed(0, 5), 9);

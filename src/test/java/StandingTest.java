@@ -13,8 +13,8 @@ public final class StandingTest {
         DUE.finish();
     }
 
-    private static TreacleTank tank() {
-        TreacleTank x = new TreacleTank();
+    private static Used tank() {
+        Used x = new Used();
         x.begin(10, 5, 0, 0, 199);
         x.ring(5, 1, 40, 10, -50, 0, 9999, 3);
         x.ring(4, 1, 20, 10, -50, 0, 9999, 2);
@@ -22,7 +22,7 @@ public final class StandingTest {
     }
 
     private static void span() {
-        TreacleTank x = tank();
+        Used x = tank();
         x.pour(6, 10);
         x.draw(3);
         DUE.due("from", x.span(0, 0), 300);
@@ -40,7 +40,7 @@ public final class StandingTest {
     }
 
     private static void trial() {
-        TreacleTank x = tank();
+        Used x = tank();
         // bear 400 and 200
         DUE.due("8 feet of 5", x.trial(8, 5), 0);
         DUE.due("9 feet of 5", x.trial(9, 5), 1);
@@ -51,8 +51,8 @@ public final class StandingTest {
         DUE.due("-1 feet", x.trial(-1, 5), -1);
         DUE.due("weight 0", x.trial(1, 0), -1);
         DUE.due("weight 100", x.trial(1, 100), -1);
-        DUE.due("no tank", new TreacleTank().trial(0, 1), -1);
-        TreacleTank y = new TreacleTank();
+        DUE.due("no tank", new Used().trial(0, 1), -1);
+        Used y = new Used();
         y.begin(1, 1, 0, 0, 1);
         DUE.due("no ring", y.trial(0, 1), -1);
         y.ring(9, 1, 1, 10, -50, 0, 9999, 3);
@@ -64,7 +64,7 @@ public final class StandingTest {
     }
 
     private static void needed() {
-        TreacleTank x = tank();
+        Used x = tank();
         // all full: 45 and 20
         DUE.due("as heavy", x.needed(0, 5), 9);
         DUE.due("as heavy, upper", x.needed(1, 5), 9);
@@ -80,7 +80,7 @@ public final class StandingTest {
     }
 
     private static void more() {
-        TreacleTank x = tank();
+        Used x = tank();
         // 450 of 400, 200 of 200
         DUE.due("coins", x.more(), 15);
         DUE.due("the lower", x.thicker(0), 5);
@@ -92,12 +92,12 @@ public final class StandingTest {
         DUE.due("nothing was built", x.told(0, 3), 400);
         DUE.due("ring 3", x.thicker(3), -1);
         DUE.due("ring -1", x.thicker(-1), -1);
-        DUE.due("no tank", new TreacleTank().more(), -1);
-        DUE.due("no tank", new TreacleTank().thicker(0), -1);
+        DUE.due("no tank", new Used().more(), -1);
+        DUE.due("no tank", new Used().thicker(0), -1);
     }
 
     private static void moreWhenColdAndTired() {
-        TreacleTank x = new TreacleTank();
+        Used x = new Used();
         x.begin(1, 10, 7, 0, 199);
         x.ring(10, 1, 9, 1, 11, 0, 9999, 2);
         // halved and less 7 a filling: 100 needs 200 and no filling
@@ -113,7 +113,7 @@ public final class StandingTest {
     }
 
     private static void noneIsEnough() {
-        TreacleTank x = new TreacleTank();
+        Used x = new Used();
         x.begin(10, 5, 0, 0, 199);
         x.ring(5, 1, 40, 10, -50, 0, 250, 3);
         DUE.due("rivets bear it", x.more(), 0);
@@ -125,7 +125,7 @@ public final class StandingTest {
     }
 
     private static void thickest() {
-        TreacleTank x = new TreacleTank();
+        Used x = new Used();
         x.begin(37, 27, 0, 0, 199);
         x.ring(1, 1, 1, 1, -50, 0, 9999, 99);
         DUE.due("999 bears 999", x.more(), 998 * 99);

@@ -31,8 +31,8 @@ final class StoryEdges extends Edges {
         due(test, tank("when " + test).fits(0, ring), 1);
     }
 
-    private void fails(String test) {
-        due(test, tank("when " + test).fits(0, 0), 0);
+    private void fails(String test, int ring) {
+        due(test, tank("when " + test).fits(0, ring), 0);
     }
 
     // Promise 16: fits
@@ -78,12 +78,18 @@ final class StoryEdges extends Edges {
     void p16Words() {
         says("of the TANK and a RING: hour (NOW), depth, gas, air, filled (FILLINGS), layers, load, bears, steel,"
                 + " drawn, built, ring (its number),");
-        for (String test : new String[] {"hour=1", "depth=7", "gas=2", "air=12", "filled=2", "layers=2", "load=46",
-            "bears=200", "steel=2", "drawn=40", "built=30", "ring=0"}) {
-            holds(test, 0);
-        }
-        for (String test : new String[] {"load=22", "bears=348", "steel=38", "drawn=50", "built=35", "ring=1"}) {
-            holds(test, 1);
+        String[] words = {"hour", "depth", "gas", "air", "filled", "layers", "load", "bears", "steel", "drawn",
+            "built", "ring"};
+        int[][] values = {{1, 7, 2, 12, 2, 2, 46, 200, 2, 40, 30, 0}, {1, 7, 2, 12, 2, 2, 22, 348, 38, 50, 35, 1}};
+        for (int ring = 0; ring < 2; ring++) {
+            for (int n = 0; n < words.length; n++) {
+                String word = words[n];
+                int value = values[ring][n];
+                holds(word + "=" + value, ring);
+                holds(value + "=" + word, ring);
+                fails(word + "=" + (value + 1), ring);
+                fails((value + 1) + "<=" + word, ring);
+            }
         }
     }
 
@@ -122,7 +128,20 @@ final class StoryEdges extends Edges {
             holds(test, 0);
         }
         for (String test : new String[] {"2<2", "3<2", "3<=2", "1=2", "3=2", "1>=2", "2>2", "1>2"}) {
-            fails(test);
+            fails(test, 0);
+        }
+    }
+
+    void p16SignsJoined() {
+        says("SUM SIGN SUM, SIGN one of < <= = >= >.");
+        for (String test : new String[] {"1<2", "1<=2", "2=2", "3>=2", "3>2"}) {
+            fails("not " + test, 0);
+            holds("not not " + test, 0);
+            holds("1=1 and " + test, 0);
+            holds(test + " and 1=1", 0);
+            holds(test + " and " + test, 0);
+            holds("1=2 or " + test, 0);
+            fails("1=2 and " + test, 0);
         }
     }
 
@@ -145,21 +164,21 @@ final class StoryEdges extends Edges {
         holds("not 1=2 or 1=2", 0);
         holds("not [1=1 and 1=2]", 0);
         holds("not not 1=1", 0);
-        fails("[1=1 or 1=1] and 1=2");
-        fails("1=1 and 1=1 and 1=2");
-        fails("not 1=1 or 1=2");
-        fails("not 1=2 and 1=2");
-        fails("not [1=2 or 1=1]");
-        fails("not not not 1=1");
+        fails("[1=1 or 1=1] and 1=2", 0);
+        fails("1=1 and 1=1 and 1=2", 0);
+        fails("not 1=1 or 1=2", 0);
+        fails("not 1=2 and 1=2", 0);
+        fails("not [1=2 or 1=1]", 0);
+        fails("not not not 1=1", 0);
     }
 
     void p16DeepestTest() {
         says("[ and not lie within one another 10 deep at most;");
         // sixty values and facts leave nine brackets that stand behind an or and an and
         holds("[" + "1=2 or 1=1 and [".repeat(9) + "1=1+0" + "]".repeat(10), 0);
-        fails("[" + "1=2 or 1=1 and [".repeat(9) + "1=2-0" + "]".repeat(10));
+        fails("[" + "1=2 or 1=1 and [".repeat(9) + "1=2-0" + "]".repeat(10), 0);
         holds("not ".repeat(10) + "1=1", 0);
-        fails("not ".repeat(9) + "1=1");
+        fails("not ".repeat(9) + "1=1", 0);
     }
 
     // Promise 17: trace
@@ -204,7 +223,8 @@ final class StoryEdges extends Edges {
     void p18TheFirstThatHolds() {
         says("chance: of its first trace CLAUSE of that TRACE without a TEST or whose TEST holds;",
                 "The chance of a TRACE by a STORY and a RING;");
-        Used x = tank("trace A 10 if ring=1;trace B 77;trace A 20 if gas=2;trace A 30;trace A 40", "trace A 5;trace A 6");
+        Used x = tank("trace A 10 if ring=1;trace B 77;trace A 20 if gas=2;trace A 30;trace A 40",
+                "trace A 5;trace A 6");
         due("by ring 1 the first", x.chance(0, 1, 0), 10);
         due("by ring 0 the second", x.chance(0, 0, 0), 20);
         due("another trace", x.chance(0, 0, 1), 77);
@@ -318,7 +338,8 @@ final class StoryEdges extends Edges {
     // Promise 20: odds
 
     void p20Downwards() {
-        says("ODDS of a STORY: its WEIGHT by the RING, in millionths of all WEIGHTS of STORIES by it together, downwards.");
+        says("ODDS of a STORY: its WEIGHT by the RING, in millionths of all WEIGHTS of STORIES by it together,"
+                + " downwards.");
         Used x = tank("prior 1", "prior 2");
         due("a third", x.odds(0, 0), 333333);
         due("two thirds", x.odds(1, 0), 666666);

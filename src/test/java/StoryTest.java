@@ -14,8 +14,8 @@ public final class StoryTest {
         DUE.finish();
     }
 
-    private static TreacleTank tank() {
-        TreacleTank x = new TreacleTank();
+    private static Used tank() {
+        Used x = new Used();
         x.begin(2, 3, 1, 0, 1);
         x.ring(4, 40, 30, 10, -50, 1, 200, 1);
         x.ring(5, 50, 35, 10, -50, 0, 999, 1);
@@ -26,13 +26,8 @@ public final class StoryTest {
         return x;
     }
 
-    private static boolean says(TreacleTank x, int ring, String test) {
-        TreacleTank y = x;
-        if (y.count(9) == 10) {
-            throw new IllegalStateException("ten stories");
-        }
-        int story = Due.story(y, "when " + test);
-        return y.fits(story, ring) == 1;
+    private static boolean says(Used x, int ring, String test) {
+        return x.fits(x.story("when " + test), ring) == 1;
     }
 
     private static void words() {
@@ -46,7 +41,7 @@ public final class StoryTest {
         for (String test : upper) {
             DUE.due(test, says(tank(), 1, test), true);
         }
-        TreacleTank x = tank();
+        Used x = tank();
         x.begin(9, 9, 0, 0, 1);
         x.ring(5, 1, 1, 1, 0, 0, 1, 1);
         x.ring(5, 1, 1, 1, 0, 0, 1, 1);
@@ -71,9 +66,9 @@ public final class StoryTest {
     }
 
     private static void fits() {
-        TreacleTank x = tank();
-        Due.story(x, "prior 1");
-        Due.story(x, "when ring=1;when depth=7;trace A 1 if 1=2");
+        Used x = tank();
+        x.story("prior 1");
+        x.story("when ring=1;when depth=7;trace A 1 if 1=2");
         DUE.due("without any", x.fits(0, 0), 1);
         DUE.due("not all hold", x.fits(1, 0), 0);
         DUE.due("all hold", x.fits(1, 1), 1);
@@ -86,7 +81,7 @@ public final class StoryTest {
     }
 
     private static void traces() {
-        TreacleTank x = new TreacleTank();
+        Used x = new Used();
         DUE.due("trace 15", x.trace(15, 1), -1);
         DUE.due("trace 15 again", x.trace(15, 0), 1);
         DUE.due("trace 15 neither", x.trace(15, -1), 0);
@@ -100,8 +95,8 @@ public final class StoryTest {
     }
 
     private static void chances() {
-        TreacleTank x = tank();
-        Due.story(x, "trace A 10 if ring=1;trace A 20 if gas=2;trace A 30;trace P 1000;trace B 7 if ring=1;trace A 40");
+        Used x = tank();
+        x.story("trace A 10 if ring=1;trace A 20 if gas=2;trace A 30;trace P 1000;trace B 7 if ring=1;trace A 40");
         DUE.due("second", x.chance(0, 0, 0), 20);
         DUE.due("first", x.chance(0, 1, 0), 10);
         DUE.due("no test holds", x.chance(0, 0, 1), 500);
@@ -116,8 +111,8 @@ public final class StoryTest {
     }
 
     private static void weights() {
-        TreacleTank x = tank();
-        Due.story(x, "prior 9999;trace A 333;trace B 1;trace C 999;when ring=0");
+        Used x = tank();
+        x.story("prior 9999;trace A 333;trace B 1;trace C 999;when ring=0");
         DUE.due("prior", x.weight(0, 0), 9999000000L);
         DUE.due("no fit", x.weight(0, 1), 0);
         x.trace(0, 1);
@@ -135,15 +130,15 @@ public final class StoryTest {
     }
 
     private static void odds() {
-        TreacleTank x = tank();
-        Due.story(x, "prior 1;when ring=0;trace A 1000");
-        Due.story(x, "prior 2;when ring=0;trace A 1000");
+        Used x = tank();
+        x.story("prior 1;when ring=0;trace A 1000");
+        x.story("prior 2;when ring=0;trace A 1000");
         DUE.due("a third", x.odds(0, 0), 333333);
         DUE.due("two thirds", x.odds(1, 0), 666666);
         DUE.due("all are 0", x.odds(0, 1), -2);
         x.trace(0, 0);
         DUE.due("not there, though sure", x.odds(0, 0), -2);
-        Due.story(x, "prior 1");
+        x.story("prior 1");
         DUE.due("the only one", x.odds(2, 0), 1000000);
         DUE.due("no other", x.odds(1, 0), 0);
         DUE.due("story 3", x.odds(3, 0), -1);
@@ -166,8 +161,8 @@ public final class StoryTest {
     }
 
     private static void made() {
-        TreacleTank x = tank();
-        Due.story(x, "when 1=2;trace A 300;trace B 700 if ring=0;trace P 0");
+        Used x = tank();
+        x.story("when 1=2;trace A 300;trace B 700 if ring=0;trace P 0");
         int[] chances = new int[16];
         java.util.Arrays.fill(chances, 500);
         chances[0] = 300;

@@ -232,18 +232,20 @@ final class StreetEdges extends Edges {
 
     void p31NeighboursInTheStreets() {
         says("of each PLACE and each of its neighbours (left, right, above, below; in the STREETS)");
-        int[][] places = {{0, 0, 2}, {11, 0, 2}, {0, 11, 2}, {11, 11, 2}, {5, 0, 3}, {5, 11, 3}, {0, 5, 3}, {11, 5, 3},
-            {5, 5, 4}};
-        for (int[] place : places) {
-            Used x = wave(place[0], place[1], 60, 9, 0);
+        for (int n = 0; n < 144; n++) {
+            Used x = wave(n % 12, n / 12, 60, 9, 0);
             x.minutes(1);
-            due("sides of " + place[0] + " " + place[1], (60 - x.place(place[0], place[1], 0)) / 10, place[2]);
-            due("nothing is lost", all(x), 60);
-            int beside = 0;
+            int sides = 0;
             for (int[] side : new int[][] {{-1, 0}, {1, 0}, {0, -1}, {0, 1}}) {
-                beside += Math.max(0, x.place(place[0] + side[0], place[1] + side[1], 0));
+                int column = n % 12 + side[0];
+                int row = n / 12 + side[1];
+                if (column >= 0 && column < 12 && row >= 0 && row < 12) {
+                    due("from " + n + " to " + column + " " + row, x.place(column, row, 0), 10);
+                    sides++;
+                }
             }
-            due("beside " + place[0] + " " + place[1], beside, 10 * place[2]);
+            due("stays at " + n, x.place(n % 12, n / 12, 0), 60 - 10 * sides);
+            due("all there is", all(x), 60);
         }
     }
 
@@ -295,6 +297,10 @@ final class StreetEdges extends Edges {
         int[] due = {0, 999, 0, -1};
         for (int what = 0; what < 4; what++) {
             due("what " + what, x.place(11, 11, what), due[what]);
+        }
+        for (int n = 0; n < 144; n++) {
+            due("came to " + n, x.place(n % 12, n / 12, 3), -1);
+            due("stain of " + n, x.place(n % 12, n / 12, 2), 0);
         }
     }
 
@@ -362,6 +368,20 @@ final class StreetEdges extends Edges {
         x.minutes(5);
         due("a wave of nothing", x.place(3, 3, 2), 0);
         due("ground without treacle", x.place(9, 9, 2), 0);
+    }
+
+    void p32TheLeastTreacle() {
+        says("where there was treacle", "treacle first was there");
+        Used x = new Used();
+        x.ground(3, 3, 50);
+        x.wave(3, 3, 1, 9, 0);
+        due("stain of 1", x.place(3, 3, 2), 51);
+        due("1 came", x.place(3, 3, 3), 0);
+        x.wave(3, 3, 4, 9, 0);
+        x.minutes(1);
+        due("1 went over", x.place(3, 4, 0), 1);
+        due("stain of it", x.place(3, 4, 2), 1);
+        due("it came", x.place(3, 4, 3), 1);
     }
 
     void p32StainWhereItIsGone() {

@@ -17,7 +17,7 @@ public final class StreetsTest {
     }
 
     private static void groundEdges() {
-        TreacleTank x = new TreacleTank();
+        Used x = new Used();
         DUE.due("ground", x.ground(11, 0, 999), 0);
         DUE.due("what it was", x.ground(11, 0, 5), 999);
         DUE.due("x and y", x.place(11, 0, 1), 5);
@@ -39,7 +39,7 @@ public final class StreetsTest {
     }
 
     private static void waveEdges() {
-        TreacleTank x = new TreacleTank();
+        Used x = new Used();
         DUE.due("no wave yet", x.minutes(0), -1);
         DUE.due("x 12", x.wave(12, 0, 1, 0, 0), false);
         DUE.due("y -1", x.wave(0, -1, 1, 0, 0), false);
@@ -56,7 +56,7 @@ public final class StreetsTest {
     }
 
     private static void nothingPoured() {
-        TreacleTank x = new TreacleTank();
+        Used x = new Used();
         x.ground(3, 3, 50);
         DUE.due("of nothing", x.wave(3, 3, 0, 0, 0), true);
         DUE.due("minutes", x.minutes(5), 5);
@@ -65,7 +65,7 @@ public final class StreetsTest {
     }
 
     private static void easyThenStiff() {
-        TreacleTank x = new TreacleTank();
+        Used x = new Used();
         x.wave(5, 5, 1000, 1, 100);
         x.minutes(1);
         // 1000 by 6: 166 to each side
@@ -84,18 +84,18 @@ public final class StreetsTest {
         DUE.due("came", x.place(3, 5, 3), 2);
         DUE.due("came across", x.place(6, 6, 3), 2);
         DUE.due("never came", x.place(2, 5, 3), -1);
-        TreacleTank y = new TreacleTank();
+        Used y = new Used();
         y.wave(5, 5, 106, 0, 100);
         y.minutes(1);
         DUE.due("stiff at once", y.place(5, 5, 0), 102);
-        TreacleTank z = new TreacleTank();
+        Used z = new Used();
         z.wave(5, 5, 105, 0, 100);
         z.minutes(60);
         DUE.due("too stiff", z.place(5, 5, 0), 105);
     }
 
     private static void atMostAQuarter() {
-        TreacleTank x = new TreacleTank();
+        Used x = new Used();
         x.ground(0, 0, 900);
         x.wave(0, 0, 43, 9, 0);
         x.minutes(1);
@@ -105,7 +105,7 @@ public final class StreetsTest {
     }
 
     private static void hills() {
-        TreacleTank x = new TreacleTank();
+        Used x = new Used();
         x.ground(1, 0, 600);
         x.ground(0, 1, 594);
         x.wave(0, 0, 600, 9, 0);
@@ -117,7 +117,7 @@ public final class StreetsTest {
     }
 
     private static void stainsStay() {
-        TreacleTank x = new TreacleTank();
+        Used x = new Used();
         x.ground(2, 2, 30);
         x.wave(2, 2, 600, 9, 0);
         DUE.due("stain at the beginning", x.place(2, 2, 2), 630);
@@ -133,7 +133,7 @@ public final class StreetsTest {
     }
 
     private static void anotherWave() {
-        TreacleTank x = new TreacleTank();
+        Used x = new Used();
         x.ground(7, 7, 4);
         x.wave(2, 2, 6000, 9, 0);
         x.minutes(20);
@@ -148,7 +148,7 @@ public final class StreetsTest {
     }
 
     private static void nothingIsLost() {
-        TreacleTank x = new TreacleTank();
+        Used x = new Used();
         for (int n = 0; n < 144; n++) {
             x.ground(n % 12, n / 12, n * 37 % 200);
         }
@@ -162,7 +162,7 @@ public final class StreetsTest {
     }
 
     private static void minutesEdges() {
-        TreacleTank x = new TreacleTank();
+        Used x = new Used();
         x.wave(0, 0, 9, 0, 0);
         DUE.due("-1 minutes", x.minutes(-1), -1);
         DUE.due("61 minutes", x.minutes(61), -1);

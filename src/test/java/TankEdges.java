@@ -807,7 +807,8 @@ final class TankEdges extends Edges {
     }
 
     void p10SteelByTheFootAbove() {
-        says("STEEL of a RING: the heat of the LAYER in which the foot above its lower edge is, and AIR, together by 2,");
+        says("STEEL of a RING: the heat of the LAYER in which the foot above its lower edge is, and AIR,"
+                + " together by 2,");
         Used x = Scenes.tank(1, 1, 0, 0, 199);
         Scenes.strongRing(x, 3);
         Scenes.strongRing(x, 3);
@@ -848,6 +849,17 @@ final class TankEdges extends Edges {
         due("not the half of it", x.told(0, 2), -33);
         x.pour(3, 30);
         due("none at this height", x.told(1, 2), -33);
+        x.pour(3, 99);
+        x.draw(3);
+        due("nor by one that is gone from there", x.told(1, 2), -33);
+    }
+
+    void p10SteelByAirAboveThirtyLayers() {
+        says("AIR alone where there is none.");
+        Used x = Scenes.thirtyLayers(0, 1);
+        Scenes.strongRing(x, 1);
+        due("in the twenty-first", x.told(1, 2), (70 + 99) / 2);
+        due("above the thirtieth", x.told(2, 2), 99);
     }
 
     void p10PlateDownwards() {

@@ -29,18 +29,18 @@ public final class TankTest {
         DUE.finish();
     }
 
-    private static TreacleTank tank(int radius, int weight, int tire, int vent, int warm) {
-        TreacleTank x = new TreacleTank();
+    private static Used tank(int radius, int weight, int tire, int vent, int warm) {
+        Used x = new Used();
         DUE.due("begin", x.begin(radius, weight, tire, vent, warm), true);
         return x;
     }
 
-    private static int strongRing(TreacleTank x, int feet) {
+    private static int strongRing(Used x, int feet) {
         return x.ring(feet, 10, 999, 999, -50, 0, 9999999, 1);
     }
 
     private static void newObject() {
-        TreacleTank x = new TreacleTank();
+        Used x = new Used();
         int[] counts = {0, 0, 0, 0, 0, 10, 0, -1, -1, 0, 0, 0, 0};
         for (int what = 0; what < counts.length; what++) {
             DUE.due("new count " + what, x.count(what), counts[what]);
@@ -63,7 +63,7 @@ public final class TankTest {
     }
 
     private static void beginEdges() {
-        TreacleTank x = new TreacleTank();
+        Used x = new Used();
         DUE.due("least", x.begin(1, 1, 0, 0, 1), true);
         DUE.due("most", x.begin(99, 99, 999, 99, 199), true);
         DUE.due("radius 0", x.begin(0, 1, 0, 0, 1), false);
@@ -79,7 +79,7 @@ public final class TankTest {
     }
 
     private static void beginAnew() {
-        TreacleTank x = tank(10, 5, 0, 0, 1);
+        Used x = tank(10, 5, 0, 0, 1);
         strongRing(x, 20);
         x.pour(5, 0);
         x.pour(5, 90);
@@ -102,7 +102,7 @@ public final class TankTest {
     }
 
     private static void ringEdges() {
-        TreacleTank x = new TreacleTank();
+        Used x = new Used();
         DUE.due("no tank", x.ring(1, 1, 1, 1, -50, 0, 1, 1), -1);
         x.begin(1, 1, 0, 0, 1);
         int[] least = {1, 1, 1, 1, -50, 0, 1, 1};
@@ -125,12 +125,12 @@ public final class TankTest {
         DUE.due("seven", x.count(1), 7);
     }
 
-    private static int ringOf(TreacleTank x, int[] m) {
+    private static int ringOf(Used x, int[] m) {
         return x.ring(m[0], m[1], m[2], m[3], m[4], m[5], m[6], m[7]);
     }
 
     private static void pourEdges() {
-        TreacleTank x = new TreacleTank();
+        Used x = new Used();
         DUE.due("no tank", x.pour(1, 1), -1);
         x.begin(1, 1, 0, 0, 1);
         DUE.due("no ring", x.pour(1, 1), -1);
@@ -150,7 +150,7 @@ public final class TankTest {
     }
 
     private static void thirtyLayers() {
-        TreacleTank x = tank(1, 1, 0, 0, 1);
+        Used x = tank(1, 1, 0, 0, 1);
         strongRing(x, 20);
         strongRing(x, 20);
         for (int n = 1; n <= 30; n++) {
@@ -165,7 +165,7 @@ public final class TankTest {
     }
 
     private static void drawing() {
-        TreacleTank x = tank(1, 1, 0, 0, 1);
+        Used x = tank(1, 1, 0, 0, 1);
         strongRing(x, 20);
         DUE.due("nothing there", x.draw(1), -1);
         x.pour(3, 30);
@@ -190,7 +190,7 @@ public final class TankTest {
     }
 
     private static void airEdges() {
-        TreacleTank x = new TreacleTank();
+        Used x = new Used();
         DUE.due("air -50", x.air(-50), 10);
         DUE.due("air 99", x.air(99), -50);
         DUE.due("air -51", x.air(-51), -1000);
@@ -199,7 +199,7 @@ public final class TankTest {
     }
 
     private static void hoursEdges() {
-        TreacleTank x = new TreacleTank();
+        Used x = new Used();
         DUE.due("-1 hours", x.hours(-1), -1);
         DUE.due("501 hours", x.hours(501), -1);
         for (int n = 1; n < 200; n++) {
@@ -213,7 +213,7 @@ public final class TankTest {
     }
 
     private static void heatGoesDownAndUp() {
-        TreacleTank x = tank(1, 1, 0, 0, 199);
+        Used x = tank(1, 1, 0, 0, 199);
         strongRing(x, 20);
         x.pour(1, 10);
         x.pour(1, 100);
@@ -223,7 +223,7 @@ public final class TankTest {
         DUE.due("lowest", x.layer(0, 1), 21);
         DUE.due("middle", x.layer(1, 1), 73);
         DUE.due("uppermost", x.layer(2, 1), -21);
-        TreacleTank y = tank(1, 1, 0, 0, 199);
+        Used y = tank(1, 1, 0, 0, 199);
         strongRing(y, 20);
         y.pour(1, 40);
         y.pour(1, 25);
@@ -239,7 +239,7 @@ public final class TankTest {
     }
 
     private static void gasWorks() {
-        TreacleTank x = tank(1, 1, 0, 1, 20);
+        Used x = tank(1, 1, 0, 1, 20);
         strongRing(x, 20);
         x.pour(1, 0);
         x.pour(1, 32);
@@ -249,7 +249,7 @@ public final class TankTest {
         // 4 goes down: 4 28 64; 36 by 8 is 4: 4 32 60; air adds 0: 28 and 28 warmer
         DUE.due("two pairs, less vent", x.count(4), 3);
         DUE.due("load with gas", x.told(0, 0), 6);
-        TreacleTank y = tank(1, 1, 0, 0, 28);
+        Used y = tank(1, 1, 0, 0, 28);
         strongRing(y, 20);
         y.pour(1, 0);
         y.pour(1, 32);
@@ -257,7 +257,7 @@ public final class TankTest {
         y.air(64);
         y.hours(1);
         DUE.due("warmer by just so much", y.count(4), 4);
-        TreacleTank z = tank(1, 1, 0, 0, 29);
+        Used z = tank(1, 1, 0, 0, 29);
         strongRing(z, 20);
         z.pour(1, 0);
         z.pour(1, 32);
@@ -268,7 +268,7 @@ public final class TankTest {
     }
 
     private static void gasWithoutLayers() {
-        TreacleTank x = tank(3, 1, 0, 1, 1);
+        Used x = tank(3, 1, 0, 1, 1);
         strongRing(x, 20);
         x.pour(1, -50);
         x.pour(1, 199);
@@ -288,7 +288,7 @@ public final class TankTest {
     }
 
     private static void gasIsBounded() {
-        TreacleTank x = tank(1, 1, 0, 0, 1);
+        Used x = tank(1, 1, 0, 0, 1);
         strongRing(x, 20);
         strongRing(x, 20);
         for (int n = 0; n < 30; n++) {
@@ -306,7 +306,7 @@ public final class TankTest {
     }
 
     private static void steelAndPlate() {
-        TreacleTank x = tank(1, 1, 0, 0, 199);
+        Used x = tank(1, 1, 0, 0, 199);
         DUE.due("ring", x.ring(3, 9, 7, 11, 20, 3, 9999, 1), 0);
         DUE.due("ring", x.ring(3, 9, 7, 11, 20, 3, 20, 1), 1);
         // 77 * 7 by 10: 53; air 10 is below 20: 26
@@ -330,7 +330,7 @@ public final class TankTest {
     }
 
     private static void fillingsTire() {
-        TreacleTank x = tank(1, 1, 15, 0, 199);
+        Used x = tank(1, 1, 15, 0, 199);
         x.ring(20, 9, 10, 4, -50, 0, 9999, 1);
         x.pour(1, 10);
         DUE.due("one filling", x.told(0, 3), 25);
@@ -345,7 +345,7 @@ public final class TankTest {
     }
 
     private static void burstByPour() {
-        TreacleTank x = tank(1, 10, 0, 0, 199);
+        Used x = tank(1, 10, 0, 0, 199);
         x.ring(10, 9, 5, 10, -50, 0, 9999, 1);
         x.ring(10, 9, 5, 10, -50, 0, 9999, 1);
         x.pour(5, 10);
@@ -370,7 +370,7 @@ public final class TankTest {
     }
 
     private static void burstByHour() {
-        TreacleTank x = tank(1, 1, 0, 0, 1);
+        Used x = tank(1, 1, 0, 0, 1);
         x.ring(10, 9, 1, 5, -50, 0, 9999, 1);
         x.pour(1, -50);
         x.pour(1, 199);
@@ -384,7 +384,7 @@ public final class TankTest {
     }
 
     private static void burstByAir() {
-        TreacleTank x = tank(1, 10, 0, 0, 199);
+        Used x = tank(1, 10, 0, 0, 199);
         x.ring(10, 9, 10, 10, 5, 0, 9999, 1);
         x.pour(8, 10);
         DUE.due("stands", x.count(7), -1);
@@ -398,7 +398,7 @@ public final class TankTest {
     }
 
     private static void burstSeeksLowest() {
-        TreacleTank x = tank(1, 10, 0, 0, 199);
+        Used x = tank(1, 10, 0, 0, 199);
         strongRing(x, 5);
         x.ring(5, 9, 1, 1, -50, 0, 9999, 1);
         x.ring(5, 9, 1, 1, -50, 0, 9999, 1);
@@ -410,7 +410,7 @@ public final class TankTest {
     }
 
     private static void burstNotByDrawOrRing() {
-        TreacleTank x = tank(1, 10, 0, 0, 199);
+        Used x = tank(1, 10, 0, 0, 199);
         x.ring(10, 9, 10, 10, 20, 0, 9999, 1);
         x.pour(1, 40);
         x.pour(7, 0);
@@ -426,7 +426,7 @@ public final class TankTest {
     }
 
     private static void stoodAtItsComing() {
-        TreacleTank x = tank(3, 1, 0, 0, 1);
+        Used x = tank(3, 1, 0, 0, 1);
         strongRing(x, 10);
         x.pour(1, -50);
         x.pour(1, 199);
@@ -442,13 +442,13 @@ public final class TankTest {
     }
 
     private static void countsAndLayers() {
-        TreacleTank x = tank(1, 1, 0, 0, 199);
+        Used x = tank(1, 1, 0, 0, 199);
         strongRing(x, 9);
         x.pour(4, 20);
         x.hours(2);
-        Due.story(x, "when 1=1");
-        Due.story(x, "prior 2");
-        Due.rule(x, "must 1 every 1");
+        x.story("when 1=1");
+        x.story("prior 2");
+        x.rule("must 1 every 1");
         x.witness(1, 1, 1);
         x.witness(2, 1, 1);
         x.witness(2, 1, 1);
@@ -467,7 +467,7 @@ public final class TankTest {
     }
 
     private static void nearest() {
-        TreacleTank x = tank(1, 10, 0, 0, 199);
+        Used x = tank(1, 10, 0, 0, 199);
         x.ring(5, 1, 100, 10, -50, 0, 9999999, 1);
         x.ring(5, 1, 50, 10, -50, 0, 9999999, 1);
         DUE.due("no load: the lowest", x.nearest(), 0);
@@ -482,18 +482,18 @@ public final class TankTest {
         x.ring(5, 1, 1, 1, -50, 5, 9, 1);
         DUE.due("bears nothing: above all", x.told(3, 1), 0);
         DUE.due("nearest", x.nearest(), 3);
-        TreacleTank y = tank(1, 10, 999, 0, 199);
+        Used y = tank(1, 10, 999, 0, 199);
         y.ring(5, 1, 1, 1, -50, 0, 9, 1);
         y.ring(5, 1, 1, 1, -50, 0, 9, 1);
         strongRing(y, 5);
         y.pour(4, 10);
         DUE.due("both bear nothing: by load", y.nearest(), 0);
-        TreacleTank z = tank(1, 10, 0, 0, 199);
+        Used z = tank(1, 10, 0, 0, 199);
         strongRing(z, 5);
         z.ring(5, 1, 1, 1, -50, 5, 9, 1);
         z.ring(5, 1, 1, 1, -50, 5, 9, 1);
         DUE.due("both alike: the lowest", z.nearest(), 1);
-        TreacleTank v = tank(1, 1, 0, 0, 199);
+        Used v = tank(1, 1, 0, 0, 199);
         v.ring(1, 1, 1, 4, -50, 0, 9, 1);
         v.ring(1, 1, 1, 1, -50, 0, 9, 1);
         v.pour(2, 10);

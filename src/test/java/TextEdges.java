@@ -1,3 +1,5 @@
+import java.util.ArrayList;
+import java.util.List;
 import java.util.function.Supplier;
 
 /** Boundary sentences of promises 12 to 15: feed, end, story, rule. */
@@ -7,6 +9,9 @@ final class TextEdges extends Edges {
     private static final int TOO_DEEP = 2;
     private static final int TOO_MANY_PARTS = 3;
     private static final int TOO_MANY_CLAUSES = 4;
+
+    private static final String[] VALUE_WORDS = {"hour", "depth", "gas", "air", "filled", "layers", "load", "bears",
+        "steel", "drawn", "built", "ring", "burst"};
 
     /** Twenty comparisons: the sixty values and facts that may be. */
     private static final String SIXTY = "1=1" + " or 1=1".repeat(19);
@@ -106,7 +111,8 @@ final class TextEdges extends Edges {
     // Promise 13: end
 
     void p13HowMany() {
-        says("The TAPE has its first n bytes alone: n;", "NONE, and nothing happens, if it has not so many, or n is below 0.");
+        says("The TAPE has its first n bytes alone: n;",
+                "NONE, and nothing happens, if it has not so many, or n is below 0.");
         limits(tapeOf(60), 0, 60, Used::end, n -> n, -1);
         limits(tapeOf(400), 0, 400, Used::end, n -> n, -1);
     }
@@ -186,6 +192,8 @@ final class TextEdges extends Edges {
         good(" ".repeat(393) + "prior 9");
         good(" ".repeat(392) + "when 1=1");
         bad(" ".repeat(395) + "prior^", CANNOT_STAND);
+        bad(" ".repeat(393) + "when 1<^", CANNOT_STAND);
+        bad(" ".repeat(393) + "when 1>^", CANNOT_STAND);
         bad("prior" + " ".repeat(395) + "^", CANNOT_STAND);
         bad("prior 9" + " ".repeat(392) + "^9", CANNOT_STAND);
     }
@@ -357,7 +365,8 @@ final class TextEdges extends Edges {
     }
 
     void p14Digits() {
-        says("VALUE: NUMBER (1 to 5 digits, as far as digits go on) | WORD.", "1 a NUMBER of more digits, or not as told;");
+        says("VALUE: NUMBER (1 to 5 digits, as far as digits go on) | WORD.",
+                "1 a NUMBER of more digits, or not as told;");
         good("when 0=99999");
         good("when 00000=00001");
         bad("when ^100000=1", WRONG_NUMBER);
@@ -376,6 +385,8 @@ final class TextEdges extends Edges {
         bad("when ^hours=1", CANNOT_STAND);
         bad("when ^hou=1", CANNOT_STAND);
         bad("when ^hourand=1", CANNOT_STAND);
+        bad("when ^hourz=1", CANNOT_STAND);
+        bad("when ^ahour=1", CANNOT_STAND);
         bad("when ^Hour=1", CANNOT_STAND);
         bad("when hour^S=1", CANNOT_STAND);
         bad("when hour^1=1", CANNOT_STAND);
@@ -388,10 +399,85 @@ final class TextEdges extends Edges {
         bad("^tracea 1", CANNOT_STAND);
     }
 
+    void p14WordsSpeltOtherwise() {
+        says("0 a byte or WORD that can't stand there,");
+        for (String word : VALUE_WORDS) {
+            good("when " + word + "=1");
+            for (int n = 0; n < word.length(); n++) {
+                bad("when ^" + word.substring(0, n) + "x" + word.substring(n + 1) + "=1", CANNOT_STAND);
+                bad("when ^" + word.substring(0, n) + word.substring(n + 1) + "=1", CANNOT_STAND);
+            }
+        }
+        for (String word : new String[] {"prior", "when", "trace"}) {
+            String rest = word.equals("prior") ? " 1" : word.equals("when") ? " 1=1" : " A 1";
+            good(word + rest);
+            for (int n = 0; n < word.length(); n++) {
+                bad("^" + word.substring(0, n) + "x" + word.substring(n + 1) + rest, CANNOT_STAND);
+                bad("^" + word.substring(0, n) + word.substring(n + 1) + rest, CANNOT_STAND);
+            }
+        }
+    }
+
+    /** Behind a beginning each token and each byte: those that may stand there are no fault, the others are one. */
+    private void mayStand(boolean asRule, String beginning, String... may) {
+        List<String> allowed = List.of(may);
+        List<String> tokens = new ArrayList<>(List.of("", "<=", ">=", "xyz", "prior", "when", "trace", "must", "every",
+                "if", "not", "and", "or"));
+        tokens.addAll(List.of(VALUE_WORDS));
+        for (int sign = 0; sign < 256; sign++) {
+            if (sign != ' ') {
+                tokens.add("" + (char) sign);
+            }
+        }
+        for (String token : tokens) {
+            Used x = new Used();
+            String text = beginning + token;
+            int answer = asRule ? x.rule(text) : x.story(text);
+            boolean isFault = answer == -2 - fault(beginning.length(), CANNOT_STAND);
+            due(text + " is a fault there", isFault, !allowed.contains(kindOf(token)));
+        }
+    }
+
+    private static String kindOf(String token) {
+        if (token.matches("[0-9]")) {
+            return "number";
+        }
+        if (token.matches("[A-P]")) {
+            return "letter";
+        }
+        return List.of(VALUE_WORDS).contains(token) ? "value" : token.isEmpty() ? "end" : token;
+    }
+
+    void p14WhatMayStandThere() {
+        says("0 a byte or WORD that can't stand there, or the end (behind the last byte);");
+        mayStand(false, "", "prior", "when", "trace");
+        mayStand(false, "prior ", "number");
+        mayStand(false, "prior 1 ", ";", "end");
+        mayStand(false, "when 1=1;", "prior", "when", "trace");
+        mayStand(false, "prior 1;", "prior", "when", "trace");
+        mayStand(false, "trace ", "letter");
+        mayStand(false, "trace A ", "number");
+        mayStand(false, "trace A 1 ", "if", ";", "end");
+        for (String beginning : new String[] {"when ", "when not ", "when [", "when 1=1 and ", "when 1=1 or ",
+            "trace A 1 if ", "when not [not [1=1 or "}) {
+            mayStand(false, beginning, "not", "[", "number", "value");
+        }
+        for (String beginning : new String[] {"when 1+", "when hour-", "when 1=", "when 1<=", "when 1=1-"}) {
+            mayStand(false, beginning, "number", "value");
+        }
+        mayStand(false, "when 1 ", "+", "-", "<", "<=", "=", ">=", ">");
+        mayStand(false, "when hour+1 ", "+", "-", "<", "<=", "=", ">=", ">");
+        mayStand(false, "when 1=1 ", "+", "-", "and", "or", ";", "end");
+        mayStand(false, "trace A 1 if not hour=air ", "+", "-", "and", "or", ";", "end");
+        mayStand(false, "when [1=1 ", "+", "-", "and", "or", "]");
+        mayStand(false, "when [1=1] ", "and", "or", ";", "end");
+        mayStand(false, "when [[1=1] ", "and", "or", "]");
+    }
+
     void p14Blanks() {
         says("Blanks (32) stand between as one likes.");
         good("prior1;when hour=1;traceA1if1=1");
-        good("   prior   1   ;   when   not   [   hour   +   1   <=   1   ]   ;   trace   A   1   if   1   =   1   ");
+        good("   prior   1   ;   when   not   [   hour   +   1   <=   1   ]   ;   trace   A   1   if   1   =   1  ");
         bad("^pri or 1", CANNOT_STAND);
         bad("prior 1 ^2", CANNOT_STAND);
         bad("when 1< ^=1", CANNOT_STAND);
@@ -403,7 +489,8 @@ final class TextEdges extends Edges {
     }
 
     void p14TenDeep() {
-        says("[ and not lie within one another 10 deep at most;", "2 too deep (at the sign that opens, or the word not);");
+        says("[ and not lie within one another 10 deep at most;",
+                "2 too deep (at the sign that opens, or the word not);");
         good("when " + "[".repeat(10) + "1=1" + "]".repeat(10));
         good("when " + "not ".repeat(10) + "1=1");
         good("when " + "not[".repeat(5) + "1=1" + "]".repeat(5));
@@ -561,6 +648,18 @@ final class TextEdges extends Edges {
         badRule("must 1 every 1 ^when 1=1", CANNOT_STAND);
         badRule("must 1 every 1 ^1=1", CANNOT_STAND);
         badRule("must 1 every 1 if 1=^123456", WRONG_NUMBER);
+    }
+
+    void p15WhatMayStandThere() {
+        says("0 a byte or WORD that can't stand there, or the end (behind the last byte);");
+        mayStand(true, "", "must");
+        mayStand(true, "must ", "number");
+        mayStand(true, "must 1 ", "every");
+        mayStand(true, "must 1 every ", "number");
+        mayStand(true, "must 1 every 1 ", "if", ";", "end");
+        mayStand(true, "must 1 every 1;", "must");
+        mayStand(true, "must 1 every 1 if ", "not", "[", "number", "value");
+        mayStand(true, "must 1 every 1 if 1=1 ", "+", "-", "and", "or", ";", "end");
     }
 
     void p15FourteenClauses() {

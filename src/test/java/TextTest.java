@@ -17,7 +17,7 @@ public final class TextTest {
     }
 
     private static void tape() {
-        TreacleTank x = new TreacleTank();
+        Used x = new Used();
         for (int n = 1; n <= 20; n++) {
             DUE.due("feed", x.feed(-1, 0, 1, 2, 3), n * 20);
         }
@@ -40,24 +40,24 @@ public final class TextTest {
     }
 
     private static void tenTexts() {
-        TreacleTank x = new TreacleTank();
+        Used x = new Used();
         for (int n = 0; n < 10; n++) {
-            DUE.due("a fault takes no number", Due.story(x, "prior"), Due.fault(5, 0));
-            DUE.due("a story", Due.story(x, "prior 1"), n);
-            DUE.due("a rule", Due.rule(x, "must 1 every 1"), n);
+            DUE.due("a fault takes no number", x.story("prior"), Due.fault(5, 0));
+            DUE.due("a story", x.story("prior 1"), n);
+            DUE.due("a rule", x.rule("must 1 every 1"), n);
         }
-        DUE.due("an eleventh story", Due.story(x, "prior 1"), -1);
+        DUE.due("an eleventh story", x.story("prior 1"), -1);
         DUE.due("nothing happens", x.count(12), 7);
-        DUE.due("an eleventh with a fault", Due.story(x, "?"), -1);
-        DUE.due("an eleventh rule", Due.rule(x, "must 1 every 1"), -1);
+        DUE.due("an eleventh with a fault", x.story("?"), -1);
+        DUE.due("an eleventh rule", x.rule("must 1 every 1"), -1);
         DUE.due("nothing happens", x.count(12), 14);
         DUE.due("ten stories", x.count(9), 10);
         DUE.due("ten rules", x.count(10), 10);
     }
 
     private static void good(String text, boolean asRule) {
-        TreacleTank x = new TreacleTank();
-        DUE.due(text, asRule ? Due.rule(x, text) : Due.story(x, text), 0);
+        Used x = new Used();
+        DUE.due(text, asRule ? x.rule(text) : x.story(text), 0);
     }
 
     private static void goodTexts() {
@@ -78,11 +78,11 @@ public final class TextTest {
     }
 
     private static void bad(String text, int place, int why) {
-        DUE.due(text, Due.story(new TreacleTank(), text), Due.fault(place, why));
+        DUE.due(text, new Used().story(text), Due.fault(place, why));
     }
 
     private static void badRule(String text, int place, int why) {
-        DUE.due(text, Due.rule(new TreacleTank(), text), Due.fault(place, why));
+        DUE.due(text, new Used().rule(text), Due.fault(place, why));
     }
 
     private static void cannotStand() {

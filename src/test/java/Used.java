@@ -15,6 +15,10 @@ final class Used {
         return x;
     }
 
+    int left() {
+        return MOST_CALLS - calls;
+    }
+
     /** Puts a text on the tape, in place of what is there. */
     void tape(String text) {
         byte[] bytes = text.getBytes(StandardCharsets.ISO_8859_1);

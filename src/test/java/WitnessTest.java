@@ -12,7 +12,7 @@ public final class WitnessTest {
     }
 
     private static void witnessEdges() {
-        TreacleTank x = new TreacleTank();
+        Used x = new Used();
         x.hours(3);
         DUE.due("hour -1", x.witness(-1, 0, 0), -1);
         DUE.due("hour 4", x.witness(4, 0, 0), -1);
@@ -26,7 +26,7 @@ public final class WitnessTest {
     }
 
     private static void threeHundred() {
-        TreacleTank x = new TreacleTank();
+        Used x = new Used();
         for (int n = 1; n <= 300; n++) {
             DUE.due("witness", x.witness(0, n % 3 == 0 ? 1 : 2, n % 2), n);
         }
@@ -36,13 +36,13 @@ public final class WitnessTest {
         DUE.due("below the line", x.lean(1, 0, 0, 0, 1), 1);
     }
 
-    private static void lean(TreacleTank x, int said, int paper, int above, int below) {
+    private static void lean(Used x, int said, int paper, int above, int below) {
         DUE.due("above", x.lean(said, paper, 0, 99999, 0), above);
         DUE.due("below", x.lean(said, paper, 0, 99999, 1), below);
     }
 
     private static void leanings() {
-        TreacleTank x = new TreacleTank();
+        Used x = new Used();
         lean(x, 0, 0, 0, 0);
         // read paper 7: 3 of 4 said 1; not: 1 of 6
         int[] read = {128, 129, 255, 128, 0, 1, 127, 0, 0, 3};
@@ -55,7 +55,7 @@ public final class WitnessTest {
         lean(x, 3, 7, 0, 1);
         // read paper 1: 255, 127, 3
         lean(x, 2, 1, 1, 3);
-        TreacleTank y = new TreacleTank();
+        Used y = new Used();
         y.witness(0, 1, 1);
         lean(y, 1, 0, 0, 0);
         lean(y, 1, 1, 0, 0);
@@ -65,7 +65,7 @@ public final class WitnessTest {
     }
 
     private static void leanByHours() {
-        TreacleTank x = new TreacleTank();
+        Used x = new Used();
         x.hours(5);
         x.witness(1, 0, 1);
         x.witness(2, 0, 0);
@@ -81,7 +81,7 @@ public final class WitnessTest {
     }
 
     private static void leanEdges() {
-        TreacleTank x = new TreacleTank();
+        Used x = new Used();
         DUE.due("said -1", x.lean(-1, 0, 0, 1, 0), -1000);
         DUE.due("said 5", x.lean(5, 0, 0, 1, 0), -1000);
         DUE.due("paper -1", x.lean(0, -1, 0, 1, 0), -1000);
