@@ -103,21 +103,60 @@ final class TankEdges extends Edges {
         limits(Scenes::rich, 1, 199, (x, n) -> yes(x.begin(10, 5, 3, 1, n)), n -> 1, 0);
     }
 
-    void p02InPlaceOfOne() {
-        says("A TANK is begun in place of one there was (no RINGS, LAYERS, GAS, FILLINGS;", ": true;");
+    private static Used begunAnew() {
         Used x = Scenes.rich();
-        due("gas of the old one", x.count(4) > 0, true);
-        due("begin", x.begin(2, 3, 0, 0, 1), true);
-        for (int what : new int[] {1, 2, 3, 4, 6}) {
-            due("count " + what, x.count(what), 0);
-        }
-        due("the old ring", x.told(0, 0), -1000);
-        due("the old layer", x.layer(0, 0), -1000);
+        x.begin(2, 3, 7, 0, 1);
+        return x;
+    }
+
+    void p02InPlaceOfOne() {
+        says("A TANK is begun in place of one there was", ": true;");
+        Used x = Scenes.rich();
+        due("begin", x.begin(2, 3, 7, 0, 1), true);
+        Scenes.strongRing(x, 4);
+        x.pour(4, 0);
+        due("load by the new measures", x.told(0, 0), 24);
+    }
+
+    void p02NoRings() {
+        says("(no RINGS, LAYERS, GAS, FILLINGS;");
+        Used x = begunAnew();
+        due("none", x.count(1), 0);
+        due("the old one", x.told(0, 0), -1000);
+        due("nearest", x.nearest(), -1);
+        due("nothing is poured without one", x.pour(1, 0), -1);
         due("a ring is the first again", Scenes.strongRing(x, 4), 0);
         due("it has not stood what the old one stood", x.told(0, 4), 0);
         due("no higher than its own rings", x.pour(5, 0), -1);
         due("as high as these", x.pour(4, 0), 4);
-        due("load by the new measures", x.told(0, 0), 24);
+    }
+
+    void p02NoLayers() {
+        says("(no RINGS, LAYERS, GAS, FILLINGS;");
+        Used x = begunAnew();
+        due("none", x.count(2), 0);
+        due("no depth", x.count(3), 0);
+        due("the old one", x.layer(0, 0), -1000);
+        Scenes.strongRing(x, 4);
+        due("nothing to draw off", x.draw(1), -1);
+        due("no load", x.told(0, 0), 0);
+        due("steel by air alone", x.told(0, 2), 12);
+    }
+
+    void p02NoGas() {
+        says("(no RINGS, LAYERS, GAS, FILLINGS;");
+        due("gas of the old one", Scenes.rich().count(4), 4);
+        due("none", begunAnew().count(4), 0);
+    }
+
+    void p02NoFillings() {
+        says("(no RINGS, LAYERS, GAS, FILLINGS;");
+        Used x = begunAnew();
+        due("none", x.count(6), 0);
+        x.ring(4, 1, 10, 10, -50, 0, 9999, 1);
+        due("not tired", x.told(0, 3), 100);
+        x.pour(1, 0);
+        due("tired once", x.told(0, 3), 93);
     }
 
     void p02NowAndAirStay() {
@@ -373,8 +412,19 @@ final class TankEdges extends Edges {
     // Promise 5: draw
 
     void p05FeetFromOneOn() {
-        says("DRAWN OFF (feet from 1 on): DEPTH;", "(more than there is, too).");
-        limits(Scenes::threeLayers, 1, 10, Used::draw, n -> 10 - n, -1);
+        says("DRAWN OFF (feet from 1 on): DEPTH;");
+        due("1", Scenes.threeLayers().draw(1), 9);
+        for (int feet : new int[] {0, -1, Integer.MIN_VALUE}) {
+            refused(Scenes::threeLayers, feet + " feet", x -> x.draw(feet), -1);
+        }
+    }
+
+    void p05MoreThanThereIs() {
+        says("(more than there is, too).");
+        due("as much as there is", Scenes.threeLayers().draw(10), 0);
+        for (int feet : new int[] {11, 20, 21, Integer.MAX_VALUE}) {
+            refused(Scenes::threeLayers, feet + " feet", x -> x.draw(feet), -1);
+        }
     }
 
     void p05NothingThere() {

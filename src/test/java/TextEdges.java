@@ -110,11 +110,22 @@ final class TextEdges extends Edges {
 
     // Promise 13: end
 
-    void p13HowMany() {
-        says("The TAPE has its first n bytes alone: n;",
-                "NONE, and nothing happens, if it has not so many, or n is below 0.");
-        limits(tapeOf(60), 0, 60, Used::end, n -> n, -1);
-        limits(tapeOf(400), 0, 400, Used::end, n -> n, -1);
+    void p13NotSoMany() {
+        says("NONE, and nothing happens, if it has not so many,");
+        due("all", tapeOf(60).get().end(60), 60);
+        due("all of a full one", tapeOf(400).get().end(400), 400);
+        for (int n : new int[] {61, 400, Integer.MAX_VALUE}) {
+            refused(tapeOf(60), "end " + n, x -> x.end(n), -1);
+        }
+        refused(tapeOf(400), "one more than a full one has", x -> x.end(401), -1);
+    }
+
+    void p13BelowZero() {
+        says("NONE, and nothing happens, if it has not so many, or n is below 0.");
+        due("none", tapeOf(60).get().end(0), 0);
+        for (int n : new int[] {-1, -60, Integer.MIN_VALUE}) {
+            refused(tapeOf(60), "end " + n, x -> x.end(n), -1);
+        }
     }
 
     void p13EmptyTape() {
@@ -124,7 +135,7 @@ final class TextEdges extends Edges {
     }
 
     void p13TheFirstAlone() {
-        says("The TAPE has its first n bytes alone");
+        says("The TAPE has its first n bytes alone: n;");
         Used x = new Used();
         x.tape("prior 12345 and more");
         due("cut", x.end(7), 7);
@@ -672,11 +683,17 @@ final class TextEdges extends Edges {
         badRule(thirteen + "must 1 every 1;^", CANNOT_STAND);
     }
 
-    void p15TenDeepAndSixtyParts() {
-        says("[ and not lie within one another 10 deep at most; at most 60 VALUES (of TESTS) and FACTS made of a SIGN,"
-                + " together.");
+    void p15TenDeep() {
+        says("[ and not lie within one another 10 deep at most;",
+                "2 too deep (at the sign that opens, or the word not);");
         goodRule("must 1 every 1 if " + "[".repeat(10) + "1=1" + "]".repeat(10));
         badRule("must 1 every 1 if " + "[".repeat(10) + "^[1=1", TOO_DEEP);
+        badRule("must 1 every 1 if " + "not ".repeat(10) + "^not 1=1", TOO_DEEP);
+    }
+
+    void p15SixtyParts() {
+        says("at most 60 VALUES (of TESTS) and FACTS made of a SIGN, together.",
+                "3 one VALUE or FACT too many (at its first byte; of a FACT at its SIGN);");
         goodRule("must 1 every 1 if " + SIXTY + ";must 2 every 2");
         badRule("must 1 every 1 if " + SIXTY + ";must 2 every 2 if ^1=1", TOO_MANY_PARTS);
         badRule("must 1 every 1 if 1" + "+1".repeat(59) + "^<1", TOO_MANY_PARTS);
